@@ -201,7 +201,7 @@ public final class GlobeCorner {
         int least = NEVER;
         for (int v = 9; v >= 0; v--) {
             trial.v[child] = v;
-            if (!trial.isAllSo(now.seen)) continue;
+            if (!trial.isAllSoBut(NEVER, now.seen)) continue;
             many++;
             least = v;
         }
@@ -524,6 +524,14 @@ public final class GlobeCorner {
             return many;
         }
 
+        private int fingersOn(int place) {
+            int many = 0;
+            for (int c = 0; c < children; c++) {
+                if (finger[c] == place) many++;
+            }
+            return many;
+        }
+
         boolean isAnotherOn(int child, int place) {
             for (int c = 0; c < children; c++) {
                 if (c != child && finger[c] == place) return true;
@@ -539,7 +547,7 @@ public final class GlobeCorner {
 
         /** The care as it will be some hours later, if the child has a finger on a place till then. */
         private int care(int child, int place, int needs, int later, boolean another) {
-            int sum = sum(child, place, needs, later);
+            int sum = school == null ? School.SUM_WITHOUT : school.sum(factsOf(child, place, needs, later));
             int dreamt = (hour + later) % 4 == 3 ? 0 : sum;
             switch (kind[child]) {
                 case GOOD: return sum + v[child];
@@ -552,15 +560,14 @@ public final class GlobeCorner {
             }
         }
 
-        private int sum(int child, int place, int needs, int later) {
-            if (school == null) return School.SUM_WITHOUT;
+        private int[] factsOf(int child, int place, int needs, int later) {
             facts[0] = child;
             facts[1] = kind[child];
             facts[2] = v[child];
             facts[3] = place;
             facts[4] = needs / 10;
             facts[5] = (hour + later) % 10;
-            return school.sum(facts);
+            return facts;
         }
 
         // ---- hours
@@ -577,9 +584,9 @@ public final class GlobeCorner {
         /** What a place that needs so much some hours later needs one hour after that. */
         private int needNext(int place, int needs, int later) {
             int next = needs + grow();
+            boolean several = fingersOn(place) > 1;
             for (int c = 0; c < children; c++) {
-                if (finger[c] != place) continue;
-                next -= Math.max(0, care(c, place, needs, later, isAnotherOn(c, place)));
+                if (finger[c] == place) next -= Math.max(0, care(c, place, needs, later, several));
             }
             return Math.max(0, Math.min(MOST_NEED, next));
         }
@@ -631,10 +638,7 @@ public final class GlobeCorner {
 
         // ---- what was seen
 
-        boolean isAllSo(Rows seen) {
-            return isAllSoBut(-1, seen);
-        }
-
+        /** Whether all that was seen is so, but for one place (NEVER: for none). */
         boolean isAllSoBut(int place, Rows seen) {
             for (int p = 0; p < PLACES; p++) {
                 if (p != place && !isSo(p, seen)) return false;
@@ -692,10 +696,6 @@ public final class GlobeCorner {
             codes++;
         }
 
-        void putTest(int letter, int way, int number) {
-            put(letter << 9 | way << 7 | number);
-        }
-
         void endClause(int n) {
             if (clauses >= CLAUSES) return;
             amount[clauses] = n;
@@ -705,38 +705,34 @@ public final class GlobeCorner {
 
         int sum(int[] facts) {
             int sum = SUM_WITHOUT;
-            int from = 0;
-            for (int i = 0; i < clauses; i++) {
-                if (holds(from, end[i], facts)) sum += amount[i];
-                from = end[i];
+            int i = 0;
+            for (int clause = 0; clause < clauses; clause++) {
+                long answers = 0;
+                for (; i < end[clause]; i++) answers = goOn(answers, code[i], facts);
+                if ((answers & 1) == 1) sum += amount[clause];
             }
             return sum;
         }
 
-        private boolean holds(int from, int to, int[] facts) {
-            long bits = 0;
-            for (int i = from; i < to; i++) {
-                int step = code[i];
-                switch (step) {
-                    case NOT: bits ^= 1; break;
-                    // The last two answers become one.
-                    case AND: bits = bits >> 2 << 1 | (bits >> 1 & bits & 1); break;
-                    case OR: bits = bits >> 2 << 1 | ((bits >> 1 | bits) & 1); break;
-                    default: bits = bits << 1 | (isSo(step, facts) ? 1 : 0); break;
-                }
+        /** The answers so far, the last one lowest, behind one more step. */
+        private static long goOn(long answers, int step, int[] facts) {
+            switch (step) {
+                case NOT: return answers ^ 1;
+                case AND: return answers >> 2 << 1 | (answers >> 1 & answers & 1);
+                case OR: return answers >> 2 << 1 | ((answers >> 1 | answers) & 1);
+                default: break;
             }
-            return (bits & 1) == 1;
+            int letter = step >> 9;
+            if (letter < 0 || letter >= facts.length) return answers << 1;
+            int way = step >> 7 & 3;
+            int number = step & 127;
+            int fact = facts[letter];
+            boolean so = way == BELOW ? fact < number : way == SAME ? fact == number : fact > number;
+            return answers << 1 | (so ? 1 : 0);
         }
 
-        private static boolean isSo(int test, int[] facts) {
-            int letter = test >> 9;
-            if (letter < 0 || letter >= facts.length) return false;
-            int number = test & 127;
-            switch (test >> 7 & 3) {
-                case BELOW: return facts[letter] < number;
-                case SAME: return facts[letter] == number;
-                default: return facts[letter] > number;
-            }
+        static int test(int letter, int way, int number) {
+            return letter << 9 | way << 7 | number;
         }
     }
 
@@ -763,37 +759,26 @@ public final class GlobeCorner {
             into = school;
             into.empty();
             at = 0;
-            boolean whole = isClauses();
+            boolean whole = isClause();
+            for (int i = 1; i < CLAUSES && whole && at < length; i++) whole = isSign(';') && isClause();
+            boolean faulty = !whole || at < length;
             length = 0;
-            return whole ? -1 : at;
-        }
-
-        private boolean isClauses() {
-            for (int i = 1; i <= CLAUSES; i++) {
-                if (!isClause()) return false;
-                if (at == length) return true;
-                if (i == CLAUSES || !isSign(';')) return false;
-            }
-            return false;
+            return faulty ? at : -1;
         }
 
         private boolean isClause() {
-            switch (next()) {
-                case 'm': return isWord("more ") && isNumber() && isCondition(number);
-                case 'l': return isWord("less ") && isNumber() && isCondition(-number);
-                case 'g': return isWord("grow ") && isNumber() && isGrow();
-                default: return false;
-            }
-        }
-
-        private boolean isGrow() {
-            into.grow = number;
+            if (next() == 'g') return isGrow();
+            boolean more = next() == 'm';
+            if (!isWord(more ? "more " : "less ") || !isNumber()) return false;
+            int n = more ? number : -number;
+            if (!isSign(' ') || !isAny(0)) return false;
+            into.endClause(n);
             return true;
         }
 
-        private boolean isCondition(int n) {
-            if (!isSign(' ') || !isAny(0)) return false;
-            into.endClause(n);
+        private boolean isGrow() {
+            if (!isWord("grow ") || !isNumber()) return false;
+            into.grow = number;
             return true;
         }
 
@@ -839,7 +824,7 @@ public final class GlobeCorner {
             if (way < 0) return false;
             at++;
             if (!isNumber()) return false;
-            into.putTest(letter, way, number);
+            into.put(School.test(letter, way, number));
             return true;
         }
 
@@ -853,18 +838,14 @@ public final class GlobeCorner {
         }
 
         private boolean isNumber() {
-            if (!isDigit()) return false;
-            number = next() - '0';
-            at++;
-            if (isDigit()) {
-                number = number * 10 + next() - '0';
+            int digits = 0;
+            number = 0;
+            while (digits < 2 && at < length && text[at] >= '0' && text[at] <= '9') {
+                number = number * 10 + text[at] - '0';
                 at++;
+                digits++;
             }
-            return true;
-        }
-
-        private boolean isDigit() {
-            return within(next(), '0', '9');
+            return digits > 0;
         }
 
         private boolean isWord(String word) {
