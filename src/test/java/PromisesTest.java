@@ -11,6 +11,7 @@ public final class PromisesTest {
         of();
         careOfKinds();
         careGoesByTheSchool();
+        conditions();
         spot();
         point();
         need();
@@ -23,6 +24,7 @@ public final class PromisesTest {
         told();
         posts();
         pass();
+        passWithAMonitor();
         on();
         crowd();
         turn();
@@ -197,6 +199,41 @@ public final class PromisesTest {
         due("of(1, 12)", g.of(1, 12), 9);
     }
 
+    /** Whether a condition holds of child 0 (kind 0, v 5) and place 3, which needs 20, at hour 0. */
+    private static void holds(String condition, boolean want) {
+        GlobeCorner g = withKinds(0);
+        due("school", school(g, "more 7 " + condition), 0);
+        due("of(0, 13) by " + condition, g.of(0, 13), want ? 11 : 4);
+    }
+
+    private static void conditions() {
+        promise = 3;
+        String yes = "x=3";
+        String no = "x<3";
+        holds(yes, true);
+        holds(no, false);
+        holds("x>3", false);
+        holds("x<4", true);
+        holds("x>2", true);
+        holds("x=03", true);
+        holds("v=5&n=2&h=0&k=0&p=0", true);
+        holds("v=5&n=2&h=0&k=0&p=1", false);
+        holds("v>98|n>98|h>98|k>98|p>98|x>98", false);
+        holds("v<99&n<99&h<99&k<99&p<99&x<99", true);
+        for (int bits = 0; bits < 16; bits++) {
+            boolean a = (bits & 1) > 0, b = (bits & 2) > 0, c = (bits & 4) > 0, d = (bits & 8) > 0;
+            String p = a ? yes : no, q = b ? yes : no, r = c ? yes : no, s = d ? yes : no;
+            holds(p + "|" + q + "&" + r + "|" + s, a || b && c || d);
+            holds(p + "&" + q + "|" + r + "&" + s, a && b || c && d);
+            holds("(" + p + "|" + q + ")&(" + r + "|" + s + ")", (a || b) && (c || d));
+            holds(p + "&(" + q + "|" + r + "&" + s + ")", a && (b || c && d));
+            holds(p + "|(" + q + "&(" + r + "|" + s + "))", a || b && (c || d));
+            holds("!" + p + "&" + q + "|!(" + r + "&!" + s + ")", !a && b || !(c && !d));
+            holds("!!" + p + "&!(" + q + "|!(" + r + "|" + s + "))", a && !(b || !(c || d)));
+            holds(p + "|" + q + "&(" + r + "|!(!" + s + "&" + p + "))", a || b && (c || !(!d && a)));
+        }
+    }
+
     private static void spot() {
         GlobeCorner g = promise(4);
         g.child(1, 9);
@@ -346,6 +383,15 @@ public final class PromisesTest {
         due("school, full and faulty", g.school(), -4);
         due("told(1)", g.told(1), 5);
 
+        GlobeCorner twice = promise(11);
+        twice.child(0, 0);
+        due("school, faulty behind two clauses", school(twice, "more 50 p=0;grow 9;more 7 p=0&p<1;"), -10 - 34);
+        due("of(0, 10), no school", twice.of(0, 10), 4);
+        due("told(1), no school", twice.told(1), 2);
+        due("school", school(twice, "more 1 p=0"), 0);
+        due("of(0, 10), nothing of the faulty one", twice.of(0, 10), 5);
+        due("told(1), nothing of the faulty one", twice.told(1), 2);
+
         GlobeCorner ten = promise(11);
         String clause = "grow 1";
         StringBuilder text = new StringBuilder(clause);
@@ -390,6 +436,9 @@ public final class PromisesTest {
         faultBehind("less", "s 1 p=1");
         faultBehind("less ", " 1 p=1");
         faultBehind("more ", "x");
+        faultBehind("more", "5 p=1");
+        faultBehind("g", "5");
+        faultBehind("", "5 p=1");
         faultBehind("more 1", ";");
         faultBehind("more 12", "3 p=1");
         faultBehind("more 1 ", " p=1");
@@ -431,6 +480,11 @@ public final class PromisesTest {
         g.need(4, 99);
         due("told(2)", g.told(2), 299);
         due("told(3)", g.told(3), 1);
+        g.need(0, 0);
+        g.need(11, 0);
+        due("told(3)", g.told(3), 3);
+        g.need(0, 20);
+        g.need(11, 20);
         school(g, "grow 0");
         due("told(1)", g.told(1), 0);
         g.pass(5);
@@ -463,6 +517,11 @@ public final class PromisesTest {
         due("told(10)", g.told(10), 0);
         due("told(11)", g.told(11), 1);
         due("told(12)", g.told(12), 2);
+
+        school(g, "more 5 x=3;more 3 p=1&x>9");
+        due("told(11), asked first", g.told(11), 10);
+        due("told(10), as child 2 does as well at 3", g.told(10), 0);
+        due("told(12)", g.told(12), 3);
 
         GlobeCorner six = withKinds(0, 0, 0, 0, 0, 0);
         school(six, "more 1 x=11&p=0;more 1 x=10;more 1 p=5&x=0;more 1 x=9&p=5");
@@ -508,6 +567,23 @@ public final class PromisesTest {
         due("spot(4, 0)", sad.spot(4, 0), 16);
         sad.pass(1);
         due("spot(4, 0)", sad.spot(4, 0), 14);
+    }
+
+    private static void passWithAMonitor() {
+        promise = 13;
+        GlobeCorner g = withKinds(0, 4, 3);
+        g.point(1, 7);
+        g.pass(1);
+        due("spot(7, 0), alone", g.spot(7, 0), 20 + 2 - 9);
+        g.point(0, 7);
+        g.need(7, 40);
+        g.pass(1);
+        due("spot(7, 0), with another", g.spot(7, 0), 40 + 2 - 4 - 18);
+        g.point(0, 8);
+        g.point(2, 7);
+        g.need(7, 40);
+        g.pass(2);
+        due("spot(7, 0), with a dreamy one who dreams then", g.spot(7, 0), 40 + 4 - 4 - 36);
     }
 
     private static void on() {
@@ -562,6 +638,9 @@ public final class PromisesTest {
         due("crowd(0, 13)", g.crowd(0, 13), -2);
         due("crowd(12, 0)", g.crowd(12, 0), -1);
         due("crowd(-1, 1)", g.crowd(-1, 1), -1);
+        g.child(1, 9);
+        g.need(0, 11);
+        due("crowd(0, 1), one is fewer than two with less bits", g.crowd(0, 1), 16);
         school(g, "grow 0");
         g.need(0, 0);
         due("crowd(0, 1), nobody", g.crowd(0, 1), 0);
@@ -865,10 +944,8 @@ public final class PromisesTest {
             due("looked()", g.looked(), 0);
             g.school();
         }
-        due("child, anew", g.child(6, 2), 2);
-        due("of(2, 2)", g.of(2, 2), -5);
-        due("of(2, 3)", g.of(2, 3), 0);
-        due("of(2, 10)", g.of(2, 10), 4);
+        rowsOfTheImage();
+        nothingIsLeftOfTheUndone();
 
         GlobeCorner none = promise(27);
         due("undo()", none.undo(), -3);
@@ -887,6 +964,61 @@ public final class PromisesTest {
         school(none, "grow 7");
         none.undo();
         due("told(1), by the newest image", none.told(1), 8);
+    }
+
+    private static void rowsOfTheImage() {
+        GlobeCorner g = promise(27);
+        g.child(0, 0);
+        g.point(0, 0);
+        g.see(0, 2, 16);
+        g.book(0, 20);
+        g.book(1, 20);
+        g.plan(3, 5);
+        g.plan(2, 1);
+        g.plan(0, 0);
+        int ends = g.ends(0);
+        g.image();
+        g.see(-1, 0, 0);
+        g.see(1, 1, 1);
+        g.book(-1, 0);
+        g.book(3, 5);
+        g.book(4, 9);
+        g.plan(-1, 0);
+        g.plan(1, 0);
+        g.plan(3, 6);
+        g.plan(3, 8);
+        g.undo();
+        due("spot(0, 2)", g.spot(0, 2), 1);
+        due("spot(0, 3)", g.spot(0, 3), 20);
+        due("looked()", g.looked(), -5);
+        g.need(1, 19);
+        due("looked()", g.looked(), 1);
+        g.need(1, 20);
+        due("ends(0)", g.ends(0), ends);
+        due("ends(0)", ends, 10 * 22 + 18 + 2);
+        g.see(-1, 0, 0);
+        g.see(3, 0, 20);
+        due("spot(0, 2), of old rows nothing is left", g.spot(0, 2), 100);
+    }
+
+    private static void nothingIsLeftOfTheUndone() {
+        GlobeCorner g = promise(27);
+        g.child(6, 1);
+        g.image();
+        g.child(6, 2);
+        for (int part = 0; part < 4; part++) g.row(1, part, 9);
+        g.point(1, 3);
+        g.pass(5);
+        due("undo()", g.undo(), 1);
+        due("spin(1)", g.spin(1), 0);
+        due("bell()", g.bell(), 0);
+        due("ends(1)", g.ends(1), 0);
+        due("child, anew", g.child(6, 7), 1);
+        due("of(1, 1)", g.of(1, 1), 7);
+        due("of(1, 2)", g.of(1, 2), -5);
+        due("of(1, 3)", g.of(1, 3), 0);
+        for (int p = 0; p < 4; p++) due("of(1, 1" + p + ")", g.of(1, 10 + p), 4);
+        due("spin(1)", g.spin(1), 0);
     }
 
     /** An act of child 1 (beside one of kind 0), v 5, with 7; and the bodies that it runs. */
@@ -923,6 +1055,9 @@ public final class PromisesTest {
         actOf(6, 1, (8 ^ 5) - 5 + 3, 70, 11, 71, 10, 10);
         actOf(6, 2, 2 * 11 + ((2 ^ 5) - 5 + 3), 40, 12, 70, 11, 71, 10, 10, 70, 11, 71, 10, 10);
 
+        GlobeCorner told = withKinds(0, 6);
+        due("act(1, 0, 4), told", told.act(1, 0, 4), 0);
+        due("act(1, 0, 2), told", told.act(1, 0, 2), 6);
         GlobeCorner g = withKinds(0, 2);
         due("act(1, 0, HIGH), wrapping", g.act(1, 0, HIGH), HIGH * 3 + 1);
         due("act(1, 2, LOW), wrapping", g.act(1, 2, LOW), (LOW * 3 + 1 - 5) * 2);
