@@ -946,6 +946,7 @@ public final class PromisesTest {
         }
         rowsOfTheImage();
         nothingIsLeftOfTheUndone();
+        sixOfThem();
 
         GlobeCorner none = promise(27);
         due("undo()", none.undo(), -3);
@@ -1019,6 +1020,32 @@ public final class PromisesTest {
         due("of(1, 3)", g.of(1, 3), 0);
         for (int p = 0; p < 4; p++) due("of(1, 1" + p + ")", g.of(1, 10 + p), 4);
         due("spin(1)", g.spin(1), 0);
+    }
+
+    private static void sixOfThem() {
+        GlobeCorner g = promise(27);
+        for (int c = 0; c < 6; c++) {
+            g.child(6, c);
+            for (int part = 0; part < 4; part++) g.row(c, part, (c + part) % 9 + 1);
+            g.point(c, c + 4);
+        }
+        g.plan(0, 0);
+        due("ends(0), each by its row", g.ends(0), 240 + 24 - 24 - (1 + 3 + 5 + 7 + 5 + 7));
+        due("ends(1)", g.ends(1), 6);
+        due("image()", g.image(), 6);
+        for (int c = 0; c < 6; c++) for (int part = 0; part < 4; part++) g.row(c, part, 0);
+        g.pass(1);
+        due("spin(11)", g.spin(11), 6);
+        due("of(5, 2)", g.of(5, 2), 8);
+        due("bell()", g.bell(), 6);
+        due("undo()", g.undo(), 6);
+        for (int c = 0; c < 6; c++) {
+            due("of(" + c + ", 1)", g.of(c, 1), c);
+            due("of(" + c + ", 2)", g.of(c, 2), c + 4);
+            due("of(" + c + ", 3)", g.of(c, 3), 0);
+            for (int p = 0; p < 4; p++) due("of(" + c + ", 1" + p + ")", g.of(c, 10 + p), 4 + (c + p) % 9 + 1);
+        }
+        due("crowd(0, 1), 22 by three of 5, 6, .. 10", g.crowd(0, 1), 2 + 4 + 16);
     }
 
     /** An act of child 1 (beside one of kind 0), v 5, with 7; and the bodies that it runs. */
