@@ -392,6 +392,11 @@ public final class PromisesTest {
         due("of(0, 10), nothing of the faulty one", twice.of(0, 10), 5);
         due("told(1), nothing of the faulty one", twice.told(1), 2);
 
+        String early = "more 1 " + "p=0&".repeat(20);
+        for (int i = 0; i < 4; i++) due("school, faulty again and again", school(twice, early), -10 - 87);
+        due("school", school(twice, "more 1 p=9"), 1);
+        due("of(0, 10), nothing of the faulty ones", twice.of(0, 10), 4);
+
         GlobeCorner ten = promise(11);
         String clause = "grow 1";
         StringBuilder text = new StringBuilder(clause);
@@ -528,6 +533,15 @@ public final class PromisesTest {
         due("told(4)", six.told(4), 24 + 3);
         int[] places = {11, 0, 1, 2, 10, 9};
         for (int c = 0; c < 6; c++) due("told(1" + c + ")", six.told(10 + c), places[c]);
+
+        GlobeCorner fewer = withKinds(0, 0);
+        fewer.image();
+        for (int c = 2; c < 6; c++) fewer.child(1, 9);
+        due("told(4), of six", fewer.told(4), 8 + 4 * 13);
+        fewer.undo();
+        due("told(4), of two again", fewer.told(4), 8);
+        due("told(11)", fewer.told(11), 1);
+        due("told(12)", fewer.told(12), -1);
     }
 
     private static void pass() {
