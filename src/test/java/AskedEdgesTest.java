@@ -55,7 +55,7 @@ public final class AskedEdgesTest extends Edges {
         for (int c = 0; c < 5; c++) g.point(c, c * 2);
         g.row(4, 0, 3);
         g.pass(6);
-        g.see(0, 3, g.on(3, 10));
+        g.see(1, 3, g.on(3, 11));
         g.plan(0, 0);
         g.plan(1, 2);
         g.plan(2, 5);
@@ -72,7 +72,7 @@ public final class AskedEdgesTest extends Edges {
         for (int c = 0; c < 6; c++) for (int what = 0; what < 4; what++) s.append(g.of(c, what)).append(' ');
         for (int c = 0; c < 6; c++) for (int p = 0; p < 12; p++) s.append(g.of(c, 10 + p)).append(' ');
         for (int what : new int[] {0, 2, 3, 4}) s.append(g.count(what)).append(' ');
-        s.append(g.spot(0, 2)).append(' ').append(g.spot(0, 3)).append(' ').append(g.looked()).append(' ');
+        s.append(g.spot(1, 2)).append(' ').append(g.spot(1, 3)).append(' ').append(g.looked()).append(' ');
         return s.append(g.ends(0)).append(' ').append(g.ends(1)).toString();
     }
 
@@ -171,6 +171,8 @@ public final class AskedEdgesTest extends Edges {
         duePosts(taught("more 95 x=7;more 99 x=8", 0), 99, 7);
         duePosts(taught("more 99 x<6", 0, 0, 0, 0, 0, 0), 6 * 99, 0, 1, 2, 3, 4, 5);
         duePosts(taught("less 5 p=0", 0, 0), 4, 0, 1);
+        duePosts(taught("less 5 p=1", 0, 0), 4, 0, 1);
+        duePosts(taught("less 5 p<9", 0, 0, 0, 0, 0, 0), 0, 0, 1, 2, 3, 4, 5);
         duePosts(taught("less 9 p=0;more 1 p=0&x=8", 0), 0, 0);
         duePosts(taught("less 9 x<11;less 3 x=11", 0), 1, 11);
         duePosts(taught("less 9 p=0;more 3 p=1&x=0;more 3 p=1&x=1", 0, 0), 7, 0, 1);
@@ -184,6 +186,7 @@ public final class AskedEdgesTest extends Edges {
         now.need(9, 60);
         duePosts(now, 13 + 2, 9, 0);
         passTo(now, 3);
+        due("told(11), asked first", now.told(11), 8);
         duePosts(now, 9, 0, 8);
     }
 
@@ -230,6 +233,10 @@ public final class AskedEdgesTest extends Edges {
         due("a monitor alone", others.crowd(0, 1), 1);
         others.need(0, 8);
         due("others who are there now do not help it", others.crowd(0, 1), 3);
+        others.need(0, 20);
+        due("but one that comes does: 18 and 4", others.crowd(0, 1), 3);
+        others.need(0, 21);
+        due("all: 18 and 8", others.crowd(0, 1), 7);
         due("of(1, 2)", others.of(1, 2), 0);
         GlobeCorner dreamy = kids(3);
         dreamy.need(0, 2);
@@ -641,14 +648,20 @@ public final class AskedEdgesTest extends Edges {
         g.row(4, 0, 9);
         g.pass(7);
         school(g, "grow 9");
-        g.see(0, 0, 0);
+        g.see(-1, 0, 0);
+        g.see(0, 2, g.on(2, 10));
+        for (int what = 3; what >= 0; what--) g.plan(what, 4);
         g.plan(-1, 0);
+        for (int what = 3; what >= 0; what--) g.plan(what, 4);
         g.book(-1, 0);
-        g.book(0, 0);
+        g.book(5, g.spot(5, 0));
         due("undo()", g.undo(), 5);
         due("all", all(g), all(some()));
+        g.need(4, 1);
+        due("looked(), by the row of the book", g.looked(), NEVER);
         g.pass(7);
         due("undo(), once more", g.undo(), 5);
         due("all", all(g), all(some()));
+        due("spot(1, 2), by what was seen", g.spot(1, 2), 1);
     }
 }

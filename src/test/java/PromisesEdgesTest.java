@@ -294,11 +294,36 @@ public final class PromisesEdgesTest extends Edges {
         due("the next", school(one, "less 1 p=0"), 1);
         due("of(0, 10), nothing of the faulty one", one.of(0, 10), 3);
         due("told(1), nothing of the faulty one", one.told(1), 2);
-        fiveFaulty();
+        nothingOfTheTextBefore();
+        nothingOfFaultyOnes();
+        faultyOnesDoNotCount();
     }
 
-    /** Faulty ones are not counted among the six. */
-    private static void fiveFaulty() {
+    private static void nothingOfTheTextBefore() {
+        GlobeCorner g = kids(0);
+        school(g, "grow 99");
+        due("a shorter text", school(g, "grow 9"), 1);
+        due("told(1)", g.told(1), 9);
+        due("a shorter text that ends too early", school(g, "grow"), -14);
+        due("a longer one", school(g, "grow 5;more 1 p=0;more 1 p<12"), 2);
+        due("of(0, 10)", g.of(0, 10), 6);
+        due("a shorter one", school(g, "grow 5;more 1 p=0"), 3);
+        due("of(0, 10)", g.of(0, 10), 5);
+    }
+
+    private static void nothingOfFaultyOnes() {
+        GlobeCorner g = kids(0);
+        due("two clauses, then a fault", school(g, "more 9 p=0;more 9 p<9;"), -32);
+        due("another first clause", school(g, "less 1 p=9"), 0);
+        due("of(0, 10), neither of the two", g.of(0, 10), 4);
+        GlobeCorner again = kids(0);
+        String early = "more 1 " + "p=0&".repeat(20);
+        for (int i = 0; i < 4; i++) due("a long text that ends too early", school(again, early), -97);
+        due("a whole one", school(again, "more 9 p=0;less 1 p=0"), 0);
+        due("of(0, 10)", again.of(0, 10), 12);
+    }
+
+    private static void faultyOnesDoNotCount() {
         GlobeCorner g = new GlobeCorner();
         for (int i = 0; i < 10; i++) due("school(), faulty", school(g, "grow"), -14);
         for (int i = 0; i < 6; i++) due("school()", school(g, "grow 1"), i);
@@ -648,6 +673,7 @@ public final class PromisesEdgesTest extends Edges {
         for (int part = 0; part < 4; part++) due("row, anew", g.row(5, part, 0), 0);
         due("undo(), once more", g.undo(), 0);
         backToSix();
+        backToFewer();
         sentence("STATE: there is none.");
         GlobeCorner none = kids(0);
         due("undo()", none.undo(), STATE);
@@ -691,6 +717,18 @@ public final class PromisesEdgesTest extends Edges {
             due("of(" + c + ", 3)", g.of(c, 3), 5);
             for (int part = 0; part < 4; part++) due("row", g.row(c, part, 0), (c + part) % 10);
         }
+    }
+
+    private static void backToFewer() {
+        GlobeCorner g = kids(0, 0);
+        g.image();
+        for (int c = 2; c < 6; c++) g.child(1, 9);
+        due("told(4), of six", g.told(4), 8 + 4 * 13);
+        due("undo()", g.undo(), 2);
+        due("told(4), of two again", g.told(4), 8);
+        due("told(11)", g.told(11), 1);
+        due("told(12), no such child", g.told(12), NONE);
+        due("crowd(0, 1), of two", g.crowd(0, 1), NEVER);
     }
 
     private static void act() {

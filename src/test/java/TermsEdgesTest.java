@@ -11,6 +11,7 @@ public final class TermsEdgesTest extends Edges {
         both();
         letters();
         testsAndSigns();
+        together();
         nesting();
         faults();
         newest();
@@ -116,6 +117,11 @@ public final class TermsEdgesTest extends Edges {
         due("feed, a byte behind 100", g.feed('0'), FULL);
         due("school of 100 bytes", g.school(), 0);
         due("of(0, 10), by the last byte", g.of(0, 10), 11);
+
+        String digit = "less 44 " + "p=1|".repeat(21) + "p=11|p<1";
+        due("bytes", digit.length(), 100);
+        due("school of 100 bytes with one digit at its end", school(g, digit), 1);
+        due("of(0, 10), by the last byte", g.of(0, 10), -40);
 
         due("no clause", read(""), -10);
         due("1 clause", read("grow 1"), 0);
@@ -250,6 +256,24 @@ public final class TermsEdgesTest extends Edges {
         holds(letter + ">" + n, one, place, false);
         holds(letter + "<" + (n + 1), one, place, true);
         if (n > 0) holds(letter + ">" + (n - 1), one, place, true);
+    }
+
+    /** Of & | ! and ( together, for every way that four tests can come out. */
+    private static void together() {
+        int[] one = {3, 0, 7};
+        int[] place = {4, 50, 2};
+        for (int bits = 0; bits < 16; bits++) {
+            boolean a = (bits & 1) > 0, b = (bits & 2) > 0, c = (bits & 4) > 0, d = (bits & 8) > 0;
+            String p = a ? "p=3" : "p<3", q = b ? "x=4" : "x>4", r = c ? "v=7" : "v=6", s = d ? "n>4" : "n<5";
+            holds(p + "|" + q + "&" + r + "|" + s, one, place, a || b && c || d);
+            holds(p + "&" + q + "|" + r + "&" + s, one, place, a && b || c && d);
+            holds("(" + p + "|" + q + ")&(" + r + "|" + s + ")", one, place, (a || b) && (c || d));
+            holds(p + "&(" + q + "|" + r + "&" + s + ")", one, place, a && (b || c && d));
+            holds(p + "&(" + q + "|(" + r + "|" + s + "))", one, place, a && (b || c || d));
+            holds(p + "|(" + q + "&(" + r + "|" + s + "))", one, place, a || b && (c || d));
+            holds("!" + p + "&" + q + "|!(" + r + "&!" + s + ")", one, place, !a && b || !(c && !d));
+            holds("!!" + p + "&!(" + q + "|!(" + r + "|" + s + "))", one, place, a && !(b || !(c || d)));
+        }
     }
 
     private static void testsAndSigns() {
@@ -542,6 +566,20 @@ public final class TermsEdgesTest extends Edges {
         g.need(0, 29);
         g.pass(1);
         due("both by hour 0 and need 29", g.spot(0, 0), 5);
+        GlobeCorner monitor = kids(0, 4, 4, 0);
+        monitor.point(1, 0);
+        monitor.point(2, 11);
+        monitor.point(3, 11);
+        monitor.need(11, 40);
+        monitor.pass(1);
+        due("a monitor alone: 20 + 2 - 9", monitor.spot(0, 0), 13);
+        due("a monitor with another: 40 + 2 - 18 - 4", monitor.spot(11, 0), 20);
+        monitor.point(0, 0);
+        monitor.point(3, 0);
+        monitor.need(0, 50);
+        monitor.pass(1);
+        due("a monitor with two others: 50 + 2 - 18 - 8", monitor.spot(0, 0), 26);
+        due("a monitor alone again: 20 + 2 - 9", monitor.spot(11, 0), 13);
         GlobeCorner sulky = kids(5);
         sulky.point(0, 0);
         sulky.pass(5);
